@@ -353,6 +353,7 @@ final class InstructionsTest extends CardChecks {
         newCard();
         ends("32", 8, ROOT, SIZE, END_WITH);
         ends("32 of BYTES", 3, NEW_BYTES, 3, SIZE, END_WITH);
+        ends("32 of one cell", 1, NEW_BYTES, 1, SIZE, END_WITH);
         for (int owner = 0; owner < 4; owner++) {
             due("33", runOf(owner, ROOT, END_WITH), DONE);
             due("the root", card.value(), owner + 1);

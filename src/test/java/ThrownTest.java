@@ -142,6 +142,12 @@ final class ThrownTest extends CardChecks {
                     ? join(times(14, PUT, 1), op(PUT, 1, PUT, 0), one) : join(full, one);
             due("a full stack is enough for " + one[0], run(join(code, op(END))), DONE);
         }
+        method(1, 0, 200, END);
+        int[][] nothings = {{NOTHING}, {ADD_TO_LOCAL, 0, 1}, {GO, 2}, {CALL, 1, 0}, {CALL_OPEN, 1, 0}, {OPEN},
+            {OPEN, CLOSE}, {OPEN, UNDO}, {HANDLE, 5}, {HANDLE_NOT}};
+        for (int[] one : nothings) {
+            due("a full stack matters not for " + one[0], run(join(full, one, op(END))), DONE);
+        }
         card.type(9);
         due("a full stack is enough for 40", run(join(times(15, PUT, 1), op(PUT, 0, COMMAND, END))), DONE);
     }

@@ -10,6 +10,7 @@ final class WritesTest extends CardChecks {
         test.undoneAndCopied();
         test.undoneObjects();
         test.endsOpen();
+        test.tornBehindReply();
         test.openWhenPowerGoes();
         test.end();
     }
@@ -149,6 +150,12 @@ final class WritesTest extends CardChecks {
         for (int i = 0; i < 3; i++) {
             due("its cells are 0", card.cell(5, i), 0);
         }
+        newCard();
+        run(join(op(NEW_BYTES, 3, DROP), write(5, 1, 9), op(OPEN, NEW_BYTES, 3, DROP), copy(5, 0, 6, 0, 3),
+                op(UNDO, NEW_BYTES, 3, END)));
+        due("its cells are 0, though 35 wrote there", card.cell(6, 1), 0);
+        newCard();
+        run(NEW_BYTES, 3, END);
         ends("new ones behind undone ones", 6,
                 OPEN, NEW_SHORTS, 2, NEW_SHORTS, 4, UNDO, DROP, DROP, NEW_SHORTS, 16, END_WITH);
         due("its size", card.told(6, 2), 16);
@@ -178,6 +185,18 @@ final class WritesTest extends CardChecks {
         due("undone for 10", card.cell(1, 0), 0);
         due("objects for 10", card.objects(), 4);
         ends("none is open in the next command", 0, IS_OPEN, END_WITH);
+    }
+
+    void tornBehindReply() {
+        newCard();
+        card.tear(0);
+        due("run", run(join(op(PUT, 8, REPLY), write(1, 0, 7), op(PUT, 5, END_WITH))), OFF);
+        replies("no reply");
+        due("no value", card.value(), 0);
+        due("nothing thrown", card.thrown0(), 0);
+        due("fuel used", card.used(), 6);
+        card.reset();
+        replies("nor behind reset");
     }
 
     void openWhenPowerGoes() {
