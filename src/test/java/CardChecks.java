@@ -8,7 +8,7 @@ abstract class CardChecks implements Instructions {
 
     private int answers;
     private int wrong;
-    CardMachine card = new CardMachine();
+    CountedCard card = new CountedCard();
 
     final void due(String what, long got, long want) {
         answers++;
@@ -27,7 +27,7 @@ abstract class CardChecks implements Instructions {
     }
 
     final void newCard() {
-        card = new CardMachine();
+        card = new CountedCard();
     }
 
     static int[] op(int... bytes) {
@@ -37,6 +37,21 @@ abstract class CardChecks implements Instructions {
     /** The instruction that puts any value. */
     static int[] put(int x) {
         return new int[] {PUT_WORD, x >> 8, x};
+    }
+
+    /** 31: cell i of an object becomes x. */
+    static int[] write(int object, int i, int x) {
+        return join(put(object), put(i), put(x), op(WRITE));
+    }
+
+    /** 35. */
+    static int[] copy(int source, int from, int target, int to, int n) {
+        return join(put(source), put(from), put(target), put(to), put(n), op(COPY));
+    }
+
+    /** What the code throws is taken, and lies on the stack behind it. */
+    static int[] taking(int... code) {
+        return join(op(HANDLE, 2 + code.length), code);
     }
 
     static int[] join(int[]... parts) {
@@ -62,11 +77,7 @@ abstract class CardChecks implements Instructions {
     }
 
     final void load(int from, int... bytes) {
-        for (int k = 0; k < bytes.length; k++) {
-            if (card.code(from + k, bytes[k] & 0xFF) != 1) {
-                throw new IllegalStateException("the test's program does not fit");
-            }
-        }
+        CodeBytes.load(card, from, bytes);
     }
 
     /** Method m of an owner, open to others, with its code. */

@@ -182,8 +182,8 @@ final class InstructionsTest extends CardChecks {
     }
 
     void jumpsIf() {
-        newCard();
         for (int x : new int[] {-32768, -1, 0, 1, 32767}) {
+            newCard();
             boolean[] holds = {x == 0, x != 0, x < 0, x >= 0, x > 0, x <= 0};
             for (int c = 0; c < 6; c++) {
                 jumpIf(c, x, holds[c]);
@@ -201,10 +201,10 @@ final class InstructionsTest extends CardChecks {
     }
 
     void jumpsIfCompared() {
-        newCard();
         int[] values = {-32768, -1, 0, 5, 32767};
         for (int x : values) {
             for (int y : values) {
+                newCard();
                 boolean[] holds = {x == y, x != y, x < y, x >= y, x > y, x <= y};
                 for (int c = 0; c < 6; c++) {
                     jumpIfCompared(c, x, y, holds[c]);
@@ -366,13 +366,13 @@ final class InstructionsTest extends CardChecks {
         newCard();
         // 5 and 6 are BYTES; 5 holds 1, 2, 3, 4.
         run(join(op(NEW_BYTES, 4, NEW_BYTES, 6), fill(5, 1, 2, 3, 4), op(END)));
-        run(copy(5, 1, 6, 3, 3));
+        run(copyAndEnd(5, 1, 6, 3, 3));
         holds("35", 6, 0, 0, 0, 2, 3, 4);
-        run(copy(5, 0, 6, 0, 4));
+        run(copyAndEnd(5, 0, 6, 0, 4));
         holds("35, all", 6, 1, 2, 3, 4, 3, 4);
         holds("the source stays", 5, 1, 2, 3, 4);
         for (int[] none : new int[][] {{0, 0}, {4, 0}, {0, 6}, {4, 6}}) {
-            due("35, n 0", run(copy(5, none[0], 6, none[1], 0)), DONE);
+            due("35, n 0", run(copyAndEnd(5, none[0], 6, none[1], 0)), DONE);
         }
         holds("n 0 copies nothing", 6, 1, 2, 3, 4, 3, 4);
         copyThrows(3, 5, 5, 6, 0, 0);
@@ -394,18 +394,18 @@ final class InstructionsTest extends CardChecks {
         copyThrows(2, 0, 0, 6, 0, 1);
         copyThrows(2, 5, 0, 7, 0, 1);
         holds("what throws copies nothing", 6, 1, 2, 3, 4, 3, 4);
-        throwsUp("35 takes five", 6, join(copyAlone(5, 0, 6, 0, 1), op(DROP)));
+        throwsUp("35 takes five", 6, join(copy(5, 0, 6, 0, 1), op(DROP)));
     }
 
     void copiesThatOverlap() {
         newCard();
         run(join(op(NEW_BYTES, 5), fill(5, 1, 2, 3, 4, 5), op(END)));
-        run(copy(5, 0, 5, 1, 4));
+        run(copyAndEnd(5, 0, 5, 1, 4));
         holds("the least first", 5, 1, 1, 1, 1, 1);
         run(join(fill(5, 1, 2, 3, 4, 5), op(END)));
-        run(copy(5, 1, 5, 0, 4));
+        run(copyAndEnd(5, 1, 5, 0, 4));
         holds("and downwards", 5, 2, 3, 4, 5, 5);
-        run(copy(5, 0, 5, 0, 5));
+        run(copyAndEnd(5, 0, 5, 0, 5));
         holds("onto itself", 5, 2, 3, 4, 5, 5);
     }
 
@@ -417,17 +417,13 @@ final class InstructionsTest extends CardChecks {
         return all;
     }
 
-    private static int[] copyAlone(int source, int from, int target, int to, int n) {
-        return join(op(PUT, source), put(from), op(PUT, target), put(to), put(n), op(COPY));
-    }
-
-    private static int[] copy(int source, int from, int target, int to, int n) {
-        return join(copyAlone(source, from, target, to, n), op(END));
+    private static int[] copyAndEnd(int source, int from, int target, int to, int n) {
+        return join(copy(source, from, target, to, n), op(END));
     }
 
     private void copyThrows(int thrown, int source, int from, int target, int to, int n) {
         throwsUp("35 " + source + " " + from + " " + target + " " + to + " " + n, thrown,
-                copy(source, from, target, to, n));
+                copyAndEnd(source, from, target, to, n));
     }
 
     private void holds(String what, int object, int... values) {
@@ -497,9 +493,8 @@ final class InstructionsTest extends CardChecks {
         for (int k : new int[] {2, 5, 22, 23, 24, 27}) {
             lengths[k] = 3;
         }
-        newCard();
         for (int k = 0; k < 46; k++) {
-            card.codes(504, 0L, 8);
+            newCard();
             load(512 - lengths[k], k);
             card.method(1, 0, 512 - lengths[k], true);
             card.run(1, 1);
@@ -513,6 +508,7 @@ final class InstructionsTest extends CardChecks {
             }
         }
         for (int k = 46; k < 256; k++) {
+            newCard();
             throwsUp("no instruction " + k, 7, k);
         }
     }

@@ -450,7 +450,7 @@ final class PromisesTest extends CardChecks {
     }
 
     /** Takes the power away by a write that changes nothing, in code that the tests don't use. */
-    private CardMachine powerOff() {
+    private CountedCard powerOff() {
         method(14, 0, 500, NEW_SHORTS, 1, END);
         card.tear(0);
         due("power off", card.run(14, 9), OFF);

@@ -3,10 +3,10 @@
  * names, equal calls have equal answers, and no code of one owner changes what another one owns.
  */
 final class RandomRunsTest extends CardChecks {
-    private static final int CARDS = 400;
-    private static final int CALLS = 100;
+    private static final int CARDS = 1000;
+    private static final int CALLS = 36;
 
-    private CardMachine twin;
+    private CountedCard twin;
     private long seed = 20261119;
 
     public static void main(String[] args) {
@@ -25,11 +25,15 @@ final class RandomRunsTest extends CardChecks {
 
     private void newCards() {
         newCard();
-        twin = new CardMachine();
-        for (int i = 0; i < 512; i++) {
-            int b = random(3) == 0 ? PUT : random(10) == 0 ? random(256) : random(46);
-            card.code(i, b);
-            twin.code(i, b);
+        twin = new CountedCard();
+        for (int i = 0; i < 512; i += 8) {
+            long eight = 0;
+            for (int k = 0; k < 8; k++) {
+                int b = random(3) == 0 ? PUT : random(10) == 0 ? random(256) : random(46);
+                eight = eight << 8 | b;
+            }
+            card.codes(i, eight, 8);
+            twin.codes(i, eight, 8);
         }
     }
 

@@ -81,10 +81,6 @@ final class ThrownTest extends CardChecks {
         due("copies", card.cell(5, 0), 9);
     }
 
-    private static int[] copy(int source, int from, int target, int to, int n) {
-        return join(op(PUT, source), put(from), op(PUT, target), put(to), put(n), op(COPY));
-    }
-
     private static final int[] WRITE_ROOT = {ROOT, PUT, 0, PUT, 1, WRITE};
 
     void things() {

@@ -15,14 +15,6 @@ final class WritesTest extends CardChecks {
         test.end();
     }
 
-    private static int[] write(int object, int i, int x) {
-        return join(op(PUT, object, PUT, i), put(x), op(WRITE));
-    }
-
-    private static int[] copy(int source, int from, int target, int to, int n) {
-        return op(PUT, source, PUT, from, PUT, target, PUT, to, PUT, n, COPY);
-    }
-
     /** Whatever write of it is torn: all of the transaction is there behind it, or nothing. */
     void wholeOrNothing() {
         int[] move = join(op(OPEN), write(1, 0, 70), write(2, 3, 30), op(NEW_SHORTS, 2, SET_LOCAL, 0),
