@@ -50,7 +50,7 @@ public final class CardMachine {
     private static final int NOT_BYTES = 11;
 
     // No place that an instruction can name, as places a little out of code can be handlers.
-    private static final int NO_HANDLER = Integer.MIN_VALUE;
+    private static final int NO_HANDLER = -1024;
     private static final int NO_TEAR = -1;
 
     private static final int MOVE = 0;

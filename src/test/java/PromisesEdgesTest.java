@@ -38,6 +38,7 @@ final class PromisesEdgesTest extends CardChecks {
         test.told();
         test.cell();
         test.cellsAtTheEnd();
+        test.whatNeedsNoPower();
         test.end();
     }
 
@@ -625,5 +626,26 @@ final class PromisesEdgesTest extends CardChecks {
         due("is told", card.cell(40, 0), 3);
         due("one behind it", card.cell(40, 1), 0);
         due("object 41", card.cell(41, 0), 0);
+    }
+
+    /** Promises 2 to 5 and 11 name no power: they answer without it as with it. */
+    void whatNeedsNoPower() {
+        newCard();
+        card.tear(0);
+        due("a tear is met", run(write(1, 0, 1)), OFF);
+        due("code", card.code(100, ROOT), 1);
+        due("codes", card.codes(101, 0x29062A19L, 4), 1);
+        due("method", card.method(5, 2, 100, false), 1);
+        due("type", card.type(7), 1);
+        due("tear", card.tear(1), 1);
+        due("bad code", card.code(512, 0), BAD);
+        due("bad codes", card.codes(505, 0L, 8), BAD);
+        due("bad method", card.method(16, 0, 0, true), BAD);
+        due("bad type", card.type(256), BAD);
+        due("reset", card.reset(), 0);
+        due("run", card.run(5, 9), DONE);
+        replies("root 3 and one byte", 4);
+        due("a write", run(join(write(1, 0, 1), op(END))), DONE);
+        due("and the torn one", run(join(write(1, 0, 1), op(END))), OFF);
     }
 }
